@@ -665,8 +665,7 @@ public final class ClaimSources {
         int valueBy(int rule) {
             switch (rule) {
                 case RULE_RANK:
-                    int rank = greatestRank();
-                    return commonValue(rank, greatestDayOf(rank));
+                    return valueOfGreatestRank();
                 case RULE_ALL:
                     return commonValue(NONE, NONE);
                 default:
@@ -708,6 +707,11 @@ public final class ClaimSources {
                 }
             }
             return found;
+        }
+
+        private int valueOfGreatestRank() {
+            int rank = greatestRank();
+            return commonValue(rank, greatestDayOf(rank));
         }
 
         private int greatestRank() {

@@ -13,6 +13,8 @@ final class ClaimTest {
         ringOfOne();
         shortestRingIsTold();
         lowestRingIsTold();
+        ringOverClaimZero();
+        claimZeroMakesNoRing();
         longestRing();
         ringStaysUntilTheNext();
         restsOnRefuses();
@@ -126,6 +128,24 @@ final class ClaimTest {
         x.lift(2, 3);
         x.restsOn(0, 6);
         Due.due("7: the next lower one", Make.ring(x), "0 6 4 1");
+    }
+
+    private static void ringOverClaimZero() {
+        ClaimSources x = Make.with(0, 3);
+        x.restsOn(2, 0);
+        x.restsOn(0, 1);
+        Due.due("7: a ring over claim 0", x.restsOn(1, 2), ClaimSources.NONE);
+        Due.due("8: the ring over claim 0", Make.ring(x), "1 2 0");
+    }
+
+    private static void claimZeroMakesNoRing() {
+        ClaimSources x = Make.with(0, 5);
+        x.restsOn(1, 0);
+        Due.due("7: one rests on claim 0", x.restsOn(2, 1), 1);
+        x.restsOn(3, 2);
+        Due.due("7: those above do not count", x.restsOn(4, 1), 1);
+        Due.due("7: nor does claim 0", x.restsOn(2, 0), 1);
+        Due.due("7: no ring was told", x.ring(0), ClaimSources.NONE);
     }
 
     private static void longestRing() {

@@ -210,6 +210,10 @@ final class OpinionTest {
         x.opinion(31, 0, 99, 10, 9);
         Due.due("13: the day before", x.agreed(0, 9), 10);
         Due.due("13: rank 9", x.agreed(0, 10), 99);
+        x.rule(1, 1);
+        x.opinion(0, 1, 1, 9, 3);
+        x.opinion(1, 1, 2, 5, 3);
+        Due.due("13: the greatest day is person 0's", x.agreed(1, 9), 1);
     }
 
     private static void agreedByAll() {
